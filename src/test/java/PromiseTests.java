@@ -41,6 +41,7 @@ public final class PromiseTests {
         promise11();
         promise12();
         promise12Order();
+        lastHourCounts();
         promise13();
         promise14();
         promise15();
@@ -75,6 +76,8 @@ public final class PromiseTests {
             due(1, "lose(" + s + ") of a new one", x.lose(s), NULL);
         }
         due(1, "pass() of a new one", x.pass(), NONE);
+        tell(x, 0, "o991");
+        due(1, "no walks", x.street(0, 0), NONE);
         due(1, "behind(11, 0) of a new one", x.behind(11, 0), 0);
         LowerBows y = of("o991;o991", "a;a");
         due(1, "another object is by itself", new LowerBows().count(0), 0);
@@ -228,6 +231,7 @@ public final class PromiseTests {
         due(8, "a thirteenth", x.old(0, 1, 1), FULL);
         due(8, "BAD is ahead of FULL", x.old(0, 0, 1), BAD);
         due(8, "how many stay", x.count(4), 12);
+        due(8, "old(0, 7, 1) of a new one", new LowerBows().old(0, 7, 1), 1);
         due(8, "an old bow is none of the hours", x.low(11, 2), 0);
     }
 
@@ -299,6 +303,9 @@ public final class PromiseTests {
         due(11, "read(3): as many as there is room for", x.read(3), 9);
         due(11, "count(4): twelve", x.count(4), 12);
         due(11, "read(3) without room", x.read(3), 0);
+        LowerBows three = new LowerBows();
+        layAll(three, 0, 0, 7, 6, 99);
+        due(11, "three items are one old bow", three.read(0), 1);
         due(11, "read(-1)", x.read(-1), BAD);
         due(11, "read(4)", x.read(4), BAD);
         x.lose(3);
@@ -355,6 +362,37 @@ public final class PromiseTests {
         due(12, "it is gone by 1", y.behind(0, 0), 1);
     }
 
+    /** Two who meet in hour 11 alone, 1 being gone by it; a third one is in the streets. */
+    private static void lastHourCounts() {
+        LowerBows x = of("o991;o991;o991", "aaaaaaaaaaab;bbbbbbbbbbbb;gf");
+        due(32, "a bow in hour 11", x.count(6), 1);
+        due(25, "a bow in hour 11 counts in the season", x.season(1, 1, 0), 1);
+        x.old(0, 1, 99);
+        due(13, "not yet behind hour 10", x.behind(10, 0), 0);
+        due(13, "gone behind hour 11", x.behind(11, 0), 2);
+        due(15, "first in hour 11", x.first(0), 11);
+        due(15, "who is first in hour 11", x.first(1), 1);
+        due(16, "gone in hour 11", x.ends(0, 1, 0), NONE);
+        due(18, "an umbrella in hour 11", x.shade(NONE), 1);
+        due(18, "which", x.shade(0), 88);
+        due(19, "a stroll in hours 0 to 2 does not help", x.stroll(0, 3, NONE), 1);
+        due(24, "the chance behind hour 10", x.forgets(3, 10, 1, 0), 0);
+        due(24, "the chance behind hour 11", x.forgets(3, 11, 1, 0), 1);
+        due(25, "gone in hours is gone in the season", x.season(1, 1, NONE), 1);
+        x.umbrella(11, 0);
+        due(19, "with the umbrella nobody is gone in a stroll", x.stroll(0, 3, NONE), 0);
+        x.back(1);
+        x.old(2, 1, 98);
+        x.umbrella(5, 5);
+        x.seen(11, 0, 1);
+        due(22, "without old bow 0 it bows 1", x.never(0), 1);
+        due(22, "an umbrella of nobody does not help", x.never(1), 0);
+        due(33, "digest() with hour 11", x.digest(), digestByCalls(x));
+        x.forget();
+        x.seen(0, 0, 0);
+        due(33, "digest() with other clues", x.digest(), digestByCalls(x));
+    }
+
     private static void promise13() {
         LowerBows x = of("o001;o501;o501", "aa;aa;aa");
         due(13, "who can not even bow 1 is gone", x.behind(0, 0), 1);
@@ -378,6 +416,8 @@ public final class PromiseTests {
         due(14, "nor from it", x.owes(0, 2, 0), 0);
         x.old(2, 0, 5);
         due(14, "not by an old bow either", x.owes(0, 0, 2), 0);
+        x.old(0, 2, 5);
+        due(14, "not by an old bow to it", x.owes(0, 2, 0), 0);
         x.old(0, 1, 99);
         due(14, "more than it can", x.owes(0, 1, 0), 103);
         due(14, "owes(0, 0, 0)", x.owes(0, 0, 0), BAD);
@@ -439,6 +479,7 @@ public final class PromiseTests {
         LowerBows y = of("o991;o991", "");
         due(16, "the most bows", y.ends(0, 1, 0), 99);
         due(16, "who of both", y.ends(0, 1, 1), 1);
+        due(16, "who of both, told otherwise", y.ends(1, 0, 1), 0);
         tell(y, 1, "aaaa;aaaa");
         due(16, "behind hour 11", y.ends(0, 1, 0), 95);
         y.old(0, 1, 99);
@@ -465,6 +506,20 @@ public final class PromiseTests {
         due(17, "rings(12, 0)", x.rings(12, 0), BAD);
         due(17, "rings(0, -1)", x.rings(0, -1), BAD);
         due(17, "rings(0, 2)", x.rings(0, 2), BAD);
+        String[] kinds = {"p991;p991;o991", "p991;o991;p991", "o991;p991;o991"};
+        int[][] bows = {{2, 1}, {1, 2}, {0, 1}};
+        for (int i = 0; i < 3; i++) {
+            LowerBows r = of(kinds[i], "");
+            due(17, "first bows alone: " + kinds[i], r.rings(0, 0), 0);
+            r.old(bows[i][0], bows[i][1], 5);
+            due(17, "with one old bow: " + kinds[i], r.rings(0, 0), 1);
+        }
+        LowerBows twice = of("o991;o991;o991", "");
+        twice.old(1, 2, 5);
+        twice.old(0, 2, 5);
+        due(17, "2 owes both: no ring", twice.rings(0, 0), 0);
+        twice.old(0, 1, 5);
+        due(17, "the greater owes the lesser: no ring", twice.rings(0, 0), 0);
         LowerBows y = of("o991;c991;o991", "");
         y.old(0, 2, 5);
         due(17, "none through the clergy", y.rings(0, 0), 0);
@@ -499,6 +554,18 @@ public final class PromiseTests {
         due(18, "beside those that there are, 0th", y.shade(0), 0);
         due(18, "beside those that there are, 1st", y.shade(1), 16);
         due(18, "none of them stays", y.count(5), 8);
+        LowerBows other = of("o991;o991;o991", "b;a;a");
+        other.old(1, 2, 99);
+        due(18, "one who does no harm need not hide", other.shade(0), 1);
+        LowerBows pairs = of("o991;o991;o991;o991", "a;b;a;b");
+        pairs.old(0, 2, 99);
+        pairs.old(1, 3, 99);
+        due(18, "two in one hour", pairs.shade(NONE), 2);
+        due(18, "two in one hour, 0th", pairs.shade(0), 0);
+        due(18, "two in one hour, 1st", pairs.shade(1), 1);
+        pairs.umbrella(0, 2);
+        due(18, "one of them hides already", pairs.shade(NONE), 1);
+        due(18, "the other one", pairs.shade(0), 1);
         due(18, "shade(-2)", y.shade(-2), BAD);
         due(18, "shade(2)", y.shade(2), BAD);
     }
@@ -521,8 +588,18 @@ public final class PromiseTests {
         due(19, "least low: it is in a in one hour alone, or in all", y.stroll(0, 0, 0), 0);
         due(19, "then not in a", y.stroll(0, 0, 1), 1);
         due(19, "nor then", y.stroll(0, 0, 2), 1);
+        // in a 2 would be gone in hour 0, but in hour 1 it is but 99 low to 1, and twice is too low for 1
+        LowerBows w = of("o991;o991;o991", ";caa;a");
+        w.old(0, 2, 99);
+        w.old(1, 0, 98);
+        due(19, "nobody is gone, though it bows 99 low", w.stroll(0, 0, NONE), 0);
+        int[] row = {1, 0, 1};
+        for (int i = 0; i < 3; i++) {
+            due(19, "the errand in hour 1 alone: " + i, w.stroll(0, 0, i), row[i]);
+        }
         LowerBows z = of("c501", "");
         due(19, "the errand in the last hour", z.stroll(0, 7, 2), 7);
+        due(19, "the errand in a: the very least row", z.stroll(0, 0, 2), 0);
         due(19, "the least row", z.stroll(0, 7, 0), 0);
         due(19, "stroll(-1, 0, 0)", z.stroll(-1, 0, 0), BAD);
         due(19, "stroll(1, 0, 0)", z.stroll(1, 0, 0), BAD);
@@ -610,6 +687,17 @@ public final class PromiseTests {
         x.forget();
         x.seen(0, 0, 21);
         due(22, "left: that of 0", x.never(1), 1);
+        x.forget();
+        x.seen(0, 3, 0);
+        due(22, "the next behind the last of people: never", x.never(0) + x.never(1), 0);
+        x.forget();
+        x.seen(0, 0, 0);
+        due(22, "with umbrella 0 there is no bow", x.never(0), 3);
+        LowerBows y = of("o991;o991", "aa;aa");
+        y.old(1, 0, 10);
+        y.umbrella(0, 0);
+        y.seen(0, 0, 11);
+        due(22, "left: with old bow 0", y.never(1), 1);
         due(22, "never(-1)", x.never(-1), BAD);
         due(22, "never(2)", x.never(2), BAD);
     }
@@ -624,6 +712,11 @@ public final class PromiseTests {
         x.seen(0, 1, 11);
         due(23, "one alone is left: the least", x.pass(), 0);
         due(23, "nobody", new LowerBows().pass(), NONE);
+        LowerBows alike = of("o991;o991", "");
+        for (int i = 0; i < 12; i++) {
+            alike.old(7, 6, 1);
+        }
+        due(23, "twelve alike", alike.pass(), 0);
         // old bows that did not come out as seen do not count
         LowerBows y = of("o991;o991;o991;o991", "a;a;b;b");
         y.old(1, 0, 10);
@@ -666,6 +759,9 @@ public final class PromiseTests {
         due(24, "eight: above", y.forgets(1, 11, 1, 0), 1);
         due(24, "eight: below", y.forgets(1, 11, 1, 1), 1L << 32);
         due(24, "eight: above", y.forgets(15, 11, 1, 0), 2562890625L);
+        y.old(1, 0, 99);
+        due(24, "0 is gone likewise: above", y.forgets(1, 11, 0, 0), 1);
+        due(24, "0 is gone likewise: below", y.forgets(1, 11, 0, 1), 1L << 32);
         int[] wrongC = {-1, 17}, wrongHour = {-1, 12}, wrongPerson = {-1, 2}, wrongWhat = {-1, 2};
         for (int i = 0; i < 2; i++) {
             due(24, "forgets(" + wrongC[i] + ", ..)", y.forgets(wrongC[i], 0, 0, 0), BAD_LONG);
@@ -696,6 +792,8 @@ public final class PromiseTests {
         due(25, "one alone", one.season(0, 99, 0), 0);
         LowerBows z = new LowerBows();
         due(25, "without people", z.season(5, 99, NONE), 0);
+        due(25, "season(1, 1, NONE)", x.season(1, 1, NONE), 0);
+        due(25, "season(1, 99, NONE)", x.season(1, 99, NONE), 1);
         due(25, "season(0, 0, NONE)", x.season(0, 0, NONE), BAD);
         due(25, "season(0, 100, NONE)", x.season(0, 100, NONE), BAD);
         due(25, "season(0, 1, 2)", x.season(0, 1, 2), BAD);
