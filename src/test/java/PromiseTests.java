@@ -367,6 +367,7 @@ public final class PromiseTests {
         LowerBows x = of("o991;o991;o991", "aaaaaaaaaaab;bbbbbbbbbbbb;gf");
         due(32, "a bow in hour 11", x.count(6), 1);
         due(25, "a bow in hour 11 counts in the season", x.season(1, 1, 0), 1);
+        due(33, "digest() with a bow in hour 11", x.digest(), digestByCalls(x));
         x.old(0, 1, 99);
         due(13, "not yet behind hour 10", x.behind(10, 0), 0);
         due(13, "gone behind hour 11", x.behind(11, 0), 2);
