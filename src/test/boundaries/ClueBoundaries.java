@@ -106,6 +106,14 @@ final class ClueBoundaries extends Bounds {
         due("all that was SEEN", x.never(0), 1);
         x.seen(11, 1, 1);
         due("all but one", x.never(0), 0);
+        LowerBows hidden = tell(crowd(2), 1, "a;a");
+        hidden.old(1, 0, 10);
+        hidden.umbrella(0, 0);
+        hidden.seen(0, 0, 0);
+        due("the UMBRELLAS are as told", hidden.never(0), 1);
+        hidden.forget();
+        hidden.seen(0, 0, 1);
+        due("none of them is left", hidden.never(0), 0);
         LowerBows twelve = crowd(2);
         for (int n = 0; n < 12; n++) {
             twelve.old(7, 6, 1);
@@ -174,12 +182,17 @@ final class ClueBoundaries extends Bounds {
         tie.old(0, 1, 10);
         tie.old(0, 1, 20);
         due("1 and 3 tell one of four each: the least", tie.pass(), 1);
-        // without 0 to 3: 3 bows 31, 31, 21, .. and 1 bows as without an OLD bow of its own
+        // without the last of them 7 bows 21, without any other one 22
         LowerBows most = tell(crowd(8), 1, "a;a;b;b;c;c;d;d");
         for (int n = 0; n < 12; n++) {
             most.old(6, 7, 10 + n);
         }
         due("of twelve eleven alike: 7 tells one", most.pass(), 7);
+        LowerBows alike = crowd(2);
+        for (int n = 0; n < 12; n++) {
+            alike.old(7, 6, 1);
+        }
+        due("of twelve all alike: the least", alike.pass(), 0);
     }
 
     private static void forgetsDue(String what, LowerBows x, int c, int hour, int person, long above, long below) {
@@ -214,6 +227,13 @@ final class ClueBoundaries extends Bounds {
         forgetsDue("eight by 0", under(8), 0, 11, 1, 0, 1);
         forgetsDue("eight by 16", under(8), 16, 11, 1, 1, 1);
         forgetsDue("eight by 8", under(8), 8, 11, 1, 1, 256);
+        LowerBows zero = of("o001;o991", "a;a");
+        zero.umbrella(0, 1);
+        forgetsDue("that 0 is GONE", zero, 3, 0, 0, 3, 16);
+        LowerBows eighth = tell(crowd(8), 1, ";;;;;;a;a");
+        eighth.old(6, 7, 99);
+        eighth.umbrella(0, 6);
+        forgetsDue("that 7 is GONE", eighth, 3, 0, 7, 3, 16);
         LowerBows hours = tell(crowd(2), 1, "aa;aa");
         hours.old(0, 1, 99);
         hours.umbrella(0, 0);

@@ -46,7 +46,7 @@ final class Coasts {
         x.old(0, 1, 3);
         x.old(3, 0, 4);
         x.umbrella(1, 3);
-        x.seen(11, 0, 5);
+        x.seen(11, 3, x.low(11, 3));
         layAll(x, 0, 0, 0, 1, 5, 9);
         layAll(x, 1, 1, -300, 300);
         x.sheet(2, 2, 0);
@@ -61,7 +61,10 @@ final class Coasts {
         }
         for (int i = 0; i < 8; i++) {
             x.umbrella(i, (3 * i) % 8);
-            x.seen(i, i, 0);
+        }
+        // as it is, so that a SEEN that is not as told would show in NEVER, whose first four OLD bows do not count
+        for (int i = 0; i < 8; i++) {
+            x.seen(i, i, x.low(i, i));
         }
         for (int s = 0; s < 3; s++) {
             x.sheet(s, s, 60);

@@ -262,6 +262,12 @@ final class HourBoundaries extends Bounds {
         for (int[] pair : pairs) {
             due("of the clergy: " + pair[0] + " to " + pair[1], c.owes(0, pair[0], pair[1]), 0);
         }
+        c.old(0, 1, 6);
+        c.old(2, 0, 6);
+        c.old(2, 1, 6);
+        for (int[] pair : pairs) {
+            due("of the clergy, bowed to otherwise: " + pair[0] + " to " + pair[1], c.owes(0, pair[0], pair[1]), 0);
+        }
     }
 
     private static void firstOfAll() {
@@ -346,6 +352,17 @@ final class HourBoundaries extends Bounds {
         back.old(0, 1, 5);
         back.old(1, 2, 5);
         due("of three, the other way round", back.rings(0, 0), 1);
+        back.old(0, 2, 5);
+        due("of three, the greater each the lesser", back.rings(0, 0), 0);
+        // rings in which one is owed 1, for want of a bow: 2 by 0 and 0 by 1, 1 by 0 and 0 by 2, 2 by 1 and 0 by 2
+        String[] kinds = {"p991;p991;o991", "p991;o991;p991", "o991;p991;o991"};
+        int[][] bows = {{2, 1}, {1, 2}, {0, 1}};
+        for (int i = 0; i < 3; i++) {
+            LowerBows proud = of(kinds[i], "");
+            due("without a bow, " + kinds[i], proud.rings(0, 0), 0);
+            proud.old(bows[i][0], bows[i][1], 5);
+            due("with one, " + kinds[i], proud.rings(0, 0), 1);
+        }
         LowerBows most = crowd(8);
         int[][] turned = {{0, 5}, {0, 6}, {0, 7}, {1, 6}, {1, 7}, {2, 7}};
         for (int[] pair : turned) {

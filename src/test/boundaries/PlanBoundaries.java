@@ -48,8 +48,33 @@ final class PlanBoundaries extends Bounds {
         pair.old(0, 1, 99);
         pair.old(2, 3, 99);
         shadeDue("two in one HOUR", pair, 2, 0, 2);
+        LowerBows beside = tell(crowd(4), 1, "a;b;a;b");
+        beside.old(0, 2, 99);
+        beside.old(1, 3, 99);
+        shadeDue("two in one HOUR, of two neighbours", beside, 2, 0, 1);
+        LowerBows threes = tell(crowd(6), 1, "a;a;b;b;c;c");
+        threes.old(0, 1, 99);
+        threes.old(2, 3, 99);
+        threes.old(4, 5, 99);
+        shadeDue("three in one HOUR", threes, NONE, NONE, NONE);
+        threes.umbrella(0, 3);
+        shadeDue("three in one HOUR, one told", threes, 2, 0, 4);
         LowerBows late = deadly("aaaaaaaaaaaa;bbbbbbbbbbba");
         shadeDue("in HOUR 11", late, 1, 88, NONE);
+        LowerBows latest = tell(crowd(4), 1, "aaaaaaaaaaaa;bbbbbbbbbbba;ccccccccccce;ddddddddddde");
+        latest.old(0, 1, 99);
+        latest.old(2, 3, 99);
+        shadeDue("two in HOUR 11", latest, 2, 88, 90);
+        LowerBows five = tell(crowd(5), 1, "aaaaaaaaaaah;bbbbbbbbbbbh;ccccccccccch;dddddddddddh;eeeeeeeeeeeh");
+        for (int a = 0; a < 5; a++) {
+            for (int b = a + 1; b < 5; b++) {
+                five.old(a, b, 99);
+            }
+        }
+        shadeDue("of five in HOUR 11 all but one would have to hide", five, NONE, NONE, NONE);
+        five.umbrella(11, 0);
+        five.umbrella(11, 4);
+        shadeDue("of three in HOUR 11 all but one", five, 2, 89, 90);
         // 0 repays 3 LOW of what it CAN: hidden in HOUR 0 the bow that is too LOW never comes
         LowerBows early = of("o031;o991", "aaaaa;aaaaa");
         due("0 is GONE in HOUR 4", early.first(0), 4);
@@ -76,6 +101,13 @@ final class PlanBoundaries extends Bounds {
         LowerBows other = tell(crowd(3), 1, "b;a;a");
         other.old(1, 2, 99);
         shadeDue("the lesser of two that help", other, 1, 1, NONE);
+        LowerBows clergy = of("o991;c991;o991", "a;a;a");
+        clergy.old(0, 2, 99);
+        shadeDue("with one of the clergy beside it", clergy, 1, 0, NONE);
+        LowerBows hidden = tell(crowd(3), 1, "a;a;a");
+        hidden.old(0, 2, 99);
+        hidden.umbrella(0, 1);
+        shadeDue("with one beside it who is not seen", hidden, 1, 0, NONE);
         LowerBows mixed = tell(crowd(4), 1, "ba;bb;aa;ab");
         mixed.old(2, 3, 99);
         mixed.old(0, 2, 99);
@@ -163,6 +195,11 @@ final class PlanBoundaries extends Bounds {
         due("one is GONE by an errand in b", two.stroll(0, 1, NONE), 1);
         LowerBows others = of("o991;o001;o991", ";aaa;aaa");
         due("others are GONE all the same", others.stroll(0, 1, NONE), 1);
+        LowerBows seven = of("o001;o001;o001;o001;o001;o001;o001;o991", "hhha;hhha;hhha;hhha;hhha;hhha;hhha;hhha");
+        strollDue("seven are GONE anyway", seven, 7, 7, 7, 0, 0, 7);
+        LowerBows lowest = of("o991;o991;o001;o991", "cccd;cccd;e;e");
+        lowest.old(1, 0, 98);
+        strollDue("one is GONE anyway, and it bows 99 LOW", lowest, 0, 7, 1, 0, 0, 7);
         LowerBows itself = of("o001;o991", ";aaa");
         due("it may be itself", itself.stroll(0, 0, NONE), 1);
     }

@@ -288,6 +288,15 @@ final class SheetBoundaries extends Bounds {
         due("NULL: both", full().copy(3, 0, 3, 0, 1), NULL);
         due("NULL ahead of INDEX", full().copy(3, -1, 0, 0, 1), NULL);
         due("NULL ahead of INDEX, t", full().copy(0, 0, 3, 99, -1), NULL);
+        for (int form = 0; form < 3; form++) {
+            LowerBows lost = full();
+            lost.sheet(3, (form + 1) % 3, 5);
+            lost.lose(3);
+            due("NULL ahead of STORE, t", full().copy(form, 0, 3, 0, 1), NULL);
+            due("NULL ahead of STORE, s", full().copy(3, 0, form, 0, 1), NULL);
+            due("NULL of one that had another FORM, t", lost.copy(form, 0, 3, 0, 1), NULL);
+            due("NULL of one that had another FORM, s", lost.copy(3, 0, form, 0, 1), NULL);
+        }
         due("STORE", full().copy(0, 0, 1, 0, 1), STORE);
         due("STORE ahead of INDEX", full().copy(0, -1, 1, 99, -1), STORE);
         int most = Integer.MAX_VALUE;
@@ -468,5 +477,36 @@ final class SheetBoundaries extends Bounds {
             due("of " + n, x.digest(), digestByCalls(x));
             due("once more", x.digest(), digestByCalls(x));
         }
+        digestOfUnlike();
+    }
+
+    /** Coasts in which neighbouring HOURS, errands and numbers of meetings make a difference. */
+    private static void digestOfUnlike() {
+        for (int k = 0; k < 40; k++) {
+            StringBuilder walks = new StringBuilder();
+            for (int i = 0; i < 71; i++) {
+                walks.append(i % 9 == 8 ? ';' : (char) ('a' + (i * (k + 3) + i * i * k) % 5 % 3));
+            }
+            LowerBows x = of("o" + (10 + k) + "2;p303;o051;o" + (99 - k) + "1;p2" + k % 10 + "2;o409;c991;o121", walks.toString());
+            x.old(1, 0, 3 + k);
+            x.old(0, 3, 5);
+            x.old(4, 2, 2);
+            x.umbrella(k % 6, k % 5);
+            x.umbrella(k % 7, 3);
+            x.seen(2, 0, x.low(2, 0));
+            due("coast " + k, x.digest(), digestByCalls(x));
+        }
+        digestOfSeasons();
+    }
+
+    private static void digestOfSeasons() {
+        // of five 0 and 3 meet for the third time in the 30th meeting, of two 0 and 1 for the 14th time in the 31st
+        LowerBows five = crowd(5), two = crowd(2);
+        five.old(3, 0, 97);
+        two.old(0, 1, 86);
+        hold("one meeting less makes a difference", five.season(7, 29, NONE) != five.season(7, 30, NONE));
+        hold("one meeting more makes a difference", two.season(7, 31, NONE) != two.season(7, 30, NONE));
+        due("of five", five.digest(), digestByCalls(five));
+        due("of two", two.digest(), digestByCalls(two));
     }
 }

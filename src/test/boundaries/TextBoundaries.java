@@ -377,6 +377,12 @@ final class TextBoundaries extends Bounds {
         due("one who is elsewhere", seventh.behind(0, 1), 1);
         seventh.umbrella(0, 7);
         due("7 is not seen", seventh.behind(0, 1), 0);
+        LowerBows two = tell(crowd(4), 1, "a;a;b;b");
+        two.umbrella(0, 0);
+        two.umbrella(0, 2);
+        due("two in one HOUR", two.behind(0, 1), 0);
+        two.umbrella(0, 3);
+        due("three in one HOUR", two.behind(0, 1), 0);
     }
 
     private static void newObject() {
@@ -436,6 +442,14 @@ final class TextBoundaries extends Bounds {
         due("there is room again, text 1", x.type(1, 'a'), 1);
         due("nothing is left of it", tell(x, 0, "501").count(0), 1);
         due("a text with a fault", of("!!!", "").wipe(0), 3);
+        LowerBows clergy = of("c991;c991", "a;a");
+        clergy.wipe(0);
+        tell(clergy, 0, "o991;o991");
+        due("of the clergy, who was there, neither", clergy.behind(0, 1), 1);
+        LowerBows walk = tell(crowd(1), 1, "hh");
+        walk.wipe(1);
+        tell(walk, 1, "g");
+        due("nor a street of the walk that was there", walk.street(1, 0), NONE);
         due("wipe(-1)", x.wipe(-1), BAD);
         due("wipe(2)", x.wipe(2), BAD);
     }
